@@ -36,6 +36,8 @@ public final class ActionTest {
             .due(1, "sheet(0,2)", "sheet(1,2)").due(0, "sheet(2,2)", "sheet(3,2)", "sheet(4,2)")
             .after("revise(1,1)").due(0, "sheet(1,2)", "sheet(2,2)").due(1, "sheet(0,2)")
             .after("revise(0,4095)").due(0, "about(7)").after("revise(3,2048)").due(2, "about(7)");
+        new Run("promise 14, two trees").after("draw(-1)", "draw(0)", "draw(-1)", "draw(2)", "revise(1,1)", "revise(3,1)")
+            .due(2, "about(7)").due(1, "sheet(0,2)", "sheet(2,2)");
     }
 
     private static void revisePrints() {
@@ -158,5 +160,10 @@ public final class ActionTest {
             .noSuch("draw(5)", "check(0)", "print(0,0)", "stamp(0,0)", "back(0)", "build(0,0)", "mend(0)", "revise(0,1)")
             .due(13, "undo()").due(13, "about(8)").after("coming(30)", "simulate(1,80)", "runScript(1,500001)", "save(0)")
             .due(12, "undo()").due(12, "about(8)").times(13, "run(1)").due(13, "undo()");
+        Run run = new Run("promise 23, a refusal forgets nothing").times(16, "run(2)").badArgument("run(0)").notNow("restore(0)");
+        for (int left = 13; left >= 0; left--) {
+            run.due(left, "undo()").due(4 + 2 * left, "about(8)");
+        }
+        run.notNow("undo()");
     }
 }

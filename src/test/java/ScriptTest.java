@@ -65,7 +65,9 @@ public final class ScriptTest {
                 "runScript(1,900101)", "runScript(1,900011)")
             .after("revise(0,3)").due(0, "runScript(1,800000)", "runScript(1,800001)", "runScript(1,900001)")
             .due(-1, "runScript(1,800002)", "runScript(1,800099)", "runScript(1,900000)")
-            .due(0, "runScript(1,800102)", "runScript(1,801002)", "runScript(1,810002)");
+            .due(0, "runScript(1,900002)", "runScript(1,900010)", "runScript(1,900100)")
+            .after("mend(0)", "mend(1)").due(-1, "runScript(1,800000)").due(0, "runScript(1,800100)")
+            .after("undo()", "undo()").due(0, "runScript(1,800102)", "runScript(1,801002)", "runScript(1,810002)");
     }
 
     private static void zerosInPlace() {
@@ -93,20 +95,27 @@ public final class ScriptTest {
 
     /** The answers come from the model of the tests, which ModelTest compares in many more runs. */
     private static void simulateKnown() {
+        String[] calls = {"draw(-1)", "draw(0)", "draw(1)", "draw(0)", "set(1,0)", "set(0,1)", "set(2,9)",
+            "print(0,0)", "print(1,1)", "print(2,2)", "build(0,0)", "build(1,1)", "build(2,2)", "revise(1,2)"};
         for (long seed = -40; seed < 40; seed++) {
             Run run = new Run("promise 31, seed " + seed);
             Model model = new Model();
-            String[] calls = {"draw(-1)", "draw(0)", "draw(1)", "draw(0)", "set(1,0)", "set(0,1)", "set(2,9)",
-                "print(0,0)", "print(1,1)", "print(2,2)", "build(0,0)", "build(1,1)", "build(2,2)", "revise(1,2)"};
             for (String call : calls) {
-                run.due(Long.parseLong(model.answer(call)), call);
+                sameAnswer(run, model, call);
             }
+            for (int p = 3; p < Math.min(24, Math.abs(seed)); p++) {
+                sameAnswer(run, model, "print(" + p % 4 + "," + p / 4 % 4 + ")");
+            }
+            sameAnswer(run, model, "set(1," + Math.floorMod(seed, 3) + ")");
             for (int m = 1; m <= 80; m += 13) {
-                String call = "simulate(" + seed * 0x5DEECE66DL + "," + m + ")";
-                run.due(Long.parseLong(model.answer(call)), call);
+                sameAnswer(run, model, "simulate(" + seed * 0x5DEECE66DL + "," + m + ")");
             }
-            run.due(0, "about(8)").due(3, "about(1)").due(13, "undo()");
+            run.due(0, "about(8)").due(4, "about(0)").due(13, "undo()");
         }
+    }
+
+    private static void sameAnswer(Run run, Model model, String call) {
+        run.due(Long.parseLong(model.answer(call)), call);
     }
 
     private static void simulateFull() {

@@ -100,6 +100,7 @@ public final class TextTest {
         error("print0@4", 7);
         error("print0@33", 8);
         error("print0:3", 6);
+        error("print10@0", 6);
         error("print0@;", 7);
         error("stamp0/0", -1);
         error("stamp23/2", -1);
@@ -192,13 +193,17 @@ public final class TextTest {
     }
 
     private static void loadMakesNew() {
-        new Run("promise 5, new").after("draw(-1)", "draw(0)", "revise(1,4095)", "print(0,0)", "set(0,7)",
-                "set(1,0)", "set(2,9)", "run(4)", "save(0)", "save(1)")
-            .text("draw").due(0, "load()").due(1, "about(0)").due(0, "about(1)", "about(7)", "about(8)")
-            .due(0, "sheet(0,1)", "sheet(0,2)", "field(0,0)", "field(0,11)").due(4095, "drawnIn(0,0)")
+        new Run("promise 5, new").after("draw(-1)", "draw(0)", "set(1,0)", "print(0,0)", "print(1,0)", "stamp(0,2)",
+                "build(0,0)", "build(1,0)", "set(0,0)", "set(2,9)", "revise(1,4095)", "revise(0,4095)", "revise(1,1)",
+                "run(4)", "save(0)", "save(1)")
+            .due(72, "about(9)").due(1, "about(7)")
+            .text("draw;draw").due(0, "load()").due(2, "about(0)").due(0, "about(1)", "about(2)", "about(3)", "about(4)",
+                "about(5)", "about(6)", "about(7)", "about(8)", "about(9)")
+            .due(0, "sheet(0,1)", "sheet(0,2)", "field(0,0)", "field(0,11)", "sheet(1,1)", "field(1,0)")
+            .due(4095, "drawnIn(0,0)", "drawnIn(1,0)").due(-1, "sheet(1,0)")
             .due(3, "setting(0)").due(1, "setting(1)").due(5, "setting(2)")
-            .notNow("undo()", "restore(0)", "restore(1)").due(0, "print(0,3)")
-            .due(0, "printed(0,3)", "printed(0,4)").due(0, "undo()").due(0, "about(1)").due(4, "clearText()");
+            .notNow("undo()", "restore(0)", "restore(1)").due(0, "print(0,3)").due(1, "about(2)").due(-1, "printed(0,6)")
+            .due(0, "printed(0,3)", "printed(0,4)", "printed(0,7)").due(0, "undo()").due(0, "about(1)").due(9, "clearText()");
     }
 
     private static void loadRefused() {

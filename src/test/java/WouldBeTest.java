@@ -77,6 +77,7 @@ public final class WouldBeTest {
         run.due(0, "common(0,0)", "common(2,4)", "common(1,3)", "common(0,5)", "common(4,0)")
             .due(1, "common(2,5)", "common(5,2)", "common(1,5)", "common(2,1)").due(3, "common(3,4)").due(4, "common(4,4)")
             .due(-1, "common(0,6)", "common(7,2)").due(6, "common(7,6)", "common(6,7)").due(7, "common(7,7)")
-            .noSuch("common(8,0)", "common(0,8)", "common(-1,0)", "common(0,-1)");
+            .noSuch("common(8,0)", "common(0,8)", "common(-1,0)", "common(0,-1)")
+            .after("draw(7)", "draw(8)").due(9, "common(9,9)").due(8, "common(9,8)").due(6, "common(6,9)");
     }
 }
