@@ -97,7 +97,7 @@ public final class ScriptTest {
     private static void simulateKnown() {
         String[] calls = {"draw(-1)", "draw(0)", "draw(1)", "draw(0)", "set(1,0)", "set(0,1)", "set(2,9)",
             "print(0,0)", "print(1,1)", "print(2,2)", "build(0,0)", "build(1,1)", "build(2,2)", "revise(1,2)"};
-        for (long seed = -40; seed < 40; seed++) {
+        for (long seed = -150; seed < 150; seed++) {
             Run run = new Run("promise 31, seed " + seed);
             Model model = new Model();
             for (String call : calls) {

@@ -181,6 +181,8 @@ public final class TextTest {
             .due(1, "printed(0,0)", "printed(0,1)").due(2, "printed(0,2)")
             .due(2, "printed(0,4)").due(0, "printed(0,3)").due(30, "about(8)")
             .due(0, "load()").due(2, "about(0)").due(1, "about(1)").due(30, "about(8)").due(44, "clearText()");
+        new Run("promise 5, fields").text("draw;rev0:4,11;rev0:0;rev0:10").due(0, "load()").due(16 + 2048, "drawnIn(0,1)")
+            .due(1, "drawnIn(0,2)").due(1024, "drawnIn(0,3)");
     }
 
     private static void loadLeavesOut() {
