@@ -99,6 +99,26 @@ final class Run {
         return this;
     }
 
+    /** The # in the call stands for a number: there are the first and the last one, and none outside. */
+    Run thereAre(int count, String call) {
+        return ends("throws.IndexOutOfBoundsException", 0, count - 1, call);
+    }
+
+    /** The # in the call stands for an argument: the ends of its range are allowed, and nothing outside. */
+    Run range(int least, int most, String call) {
+        return ends("throws.IllegalArgumentException", least, most, call);
+    }
+
+    private Run ends(String how, int least, int most, String call) {
+        for (long outside : new long[] {Integer.MIN_VALUE, least - 1L, most + 1L, most + 256L, Integer.MAX_VALUE}) {
+            boolean isOutside = outside < least || outside > most;
+            if (isOutside && outside == (int) outside) {
+                fails(how, call.replace("#", "" + outside));
+            }
+        }
+        return after(call.replace("#", "" + least), call.replace("#", "" + most));
+    }
+
     private Run fails(String how, String... callsWritten) {
         for (String call : callsWritten) {
             compare(call, answer(call), how);
