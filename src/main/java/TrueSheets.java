@@ -1390,8 +1390,9 @@ public final class TrueSheets {
         private int readWord() {
             int longest = 0;
             for (int word = 0; word < WORDS; word++) {
-                int same = lettersOf(spelling(word));
-                if (same == spelling(word).length()) {
+                String letters = spelling(word);
+                int same = lettersOf(letters);
+                if (same == letters.length()) {
                     place += same;
                     return word;
                 }
